@@ -1,4 +1,6 @@
 import java.math.BigInteger;
+import java.util.ArrayList;
+import java.util.List;
 
 /**
  * Works the document's terms out with big numbers, and runs them backwards: HASH keeps all but five bits,
@@ -61,6 +63,48 @@ final class Forger {
         BigInteger n = modulus(denomination);
         BigInteger factor = BigInteger.valueOf(r).modPow(EXPONENT, n);
         return BigInteger.valueOf(m).multiply(factor).mod(n).longValueExact();
+    }
+
+    /** A, C, Y, B, E, X and the pair hash of a candidate. */
+    static long[] candidate(long seed, int j, int account, boolean cheats) {
+        long a = hash(seed, 3 * j);
+        long c = hash(seed, 3 * j + 1);
+        long e = hash(seed, 3 * j + 2);
+        long b = cheats ? a ^ (1000 + account) ^ 1 : a ^ (1000 + account);
+        long x = hash(a, c);
+        long y = hash(b, e);
+        return new long[] {a, c, y, b, e, x, hash(x, y)};
+    }
+
+    static List<long[]> candidates(long seed, int account, int cheats) {
+        List<long[]> all = new ArrayList<>();
+        for (int j = 0; j < 6; j++) {
+            all.add(candidate(seed, j, account, (cheats & 1 << j) != 0));
+        }
+        return all;
+    }
+
+    /** The two candidates that the mint opens, as bits. */
+    static int opened(List<long[]> candidates) {
+        long t = hash(pairHashes(candidates));
+        long first = t % 6;
+        long second = (first + 1 + t / 6 % 5) % 6;
+        return 1 << first | 1 << second;
+    }
+
+    static List<long[]> parts(List<long[]> candidates) {
+        List<long[]> parts = new ArrayList<>();
+        for (int j = 0; j < 6; j++) {
+            if ((opened(candidates) & 1 << j) == 0) {
+                parts.add(candidates.get(j));
+            }
+        }
+        parts.sort((one, other) -> Long.compare(one[6], other[6]));
+        return parts;
+    }
+
+    static long[] pairHashes(List<long[]> candidates) {
+        return candidates.stream().mapToLong(candidate -> candidate[6]).toArray();
     }
 
     static long coinNumber(long denomination, long[] pairHashes) {

@@ -10,7 +10,7 @@ final class Reference {
         long number;
         long signature;
         boolean spent;
-        List<long[]> parts = new ArrayList<>();
+        List<long[]> parts;
     }
 
     private final int[] balances = {100, 100, 100, 100};
@@ -34,45 +34,23 @@ final class Reference {
         if (balances[account] < Forger.WORTH[denomination] || wallets.get(account).size() == 8) {
             throw new IllegalStateException();
         }
-        List<long[]> candidates = new ArrayList<>();
-        for (int j = 0; j < 6; j++) {
-            candidates.add(candidate(seed, j, 1000 + account, (cheats & 1 << j) != 0));
-        }
-        long t = Forger.hash(candidates.stream().mapToLong(x -> x[6]).toArray());
-        int first = (int) (t % 6);
-        int second = (int) ((first + 1 + t / 6 % 5) % 6);
-        int found = (cheats >> first & 1) + (cheats >> second & 1);
+        List<long[]> candidates = Forger.candidates(seed, account, cheats);
+        int found = Integer.bitCount(cheats & Forger.opened(candidates));
         if (found > 0) {
             balances[account]--;
             counts[2] += found;
             throw new IllegalStateException();
         }
         Coin coin = new Coin();
-        for (int j = 0; j < 6; j++) {
-            if (j != first && j != second) {
-                coin.parts.add(candidates.get(j));
-            }
-        }
-        coin.parts.sort((one, other) -> Long.compare(one[6], other[6]));
+        coin.parts = Forger.parts(candidates);
         coin.denomination = denomination;
-        coin.number = Forger.coinNumber(denomination, coin.parts.stream().mapToLong(x -> x[6]).toArray());
+        coin.number = Forger.coinNumber(denomination, Forger.pairHashes(coin.parts));
         coin.signature = Forger.sign(coin.number, denomination);
         blinded = Forger.blind(coin.number, Forger.blindingFactor(seed, denomination), denomination);
         wallets.get(account).add(coin);
         balances[account] -= Forger.WORTH[denomination];
         counts[0]++;
         return wallets.get(account).size() - 1;
-    }
-
-    /** A, C, Y, B, E, X and the pair hash. */
-    private static long[] candidate(long seed, int j, long identity, boolean cheats) {
-        long a = Forger.hash(seed, 3 * j);
-        long c = Forger.hash(seed, 3 * j + 1);
-        long e = Forger.hash(seed, 3 * j + 2);
-        long b = cheats ? a ^ identity ^ 1 : a ^ identity;
-        long x = Forger.hash(a, c);
-        long y = Forger.hash(b, e);
-        return new long[] {a, c, y, b, e, x, Forger.hash(x, y)};
     }
 
     int choose(int account, int amount) {
