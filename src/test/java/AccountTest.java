@@ -37,7 +37,8 @@ public final class AccountTest {
 
     private static void noSuchAccount() {
         for (int odd : ODD) {
-            CHECK.refusedUnchanged("balance(" + odd + ")", Check.ARGUMENT, AccountTest::used, mint -> mint.balance(odd));
+            CHECK.refusedUnchanged("balance(" + odd + ")", Check.ARGUMENT, AccountTest::used,
+                    mint -> mint.balance(odd));
             CHECK.due("coins(" + odd + ")", used().coins(odd), -1);
         }
     }
