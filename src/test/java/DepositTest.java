@@ -1,17 +1,26 @@
-/** Promise 8: deposit. */
+import java.util.Set;
+
+/** Promise 8: deposit; its tracing stands in TracedTest. */
 public final class DepositTest {
     private static final Check CHECK = new Check();
     private static final long[] VS = {1, 2, 3, 4};
 
     public static void main(String[] args) {
-        ordinary();
-        wrongInputs();
-        notGood();
-        argumentsBeforeState();
-        depositedBefore();
-        otherCoinsOfTheSameNumber();
-        sameHashesOfOtherDenominations();
-        moreCoinsThanPayments();
+        CHECK.each(
+                DepositTest::ordinary,
+                DepositTest::noSuchAccount,
+                DepositTest::noSuchPayment,
+                DepositTest::noPaymentsAtAll,
+                DepositTest::twentiethPayment,
+                DepositTest::notGood,
+                DepositTest::argumentsBeforeState,
+                DepositTest::depositedBefore,
+                DepositTest::repeatChangesThisAlone,
+                DepositTest::firstDepositToAnyAccount,
+                DepositTest::twoCoinsOfOneSeed,
+                DepositTest::otherCoinsOfTheSameNumber,
+                DepositTest::sameHashesOfOtherDenominations,
+                DepositTest::moreCoinsThanPayments);
         CHECK.finish();
     }
 
@@ -24,6 +33,7 @@ public final class DepositTest {
         return mint;
     }
 
+    /** "Deposits payment p to an account: what the coin is worth; the account has that more." */
     private static void ordinary() {
         BlindMint mint = threePayments();
         CHECK.due("deposit of 20", mint.deposit(2, 3), 20);
@@ -33,21 +43,53 @@ public final class DepositTest {
         for (int a = 0; a < 4; a++) {
             CHECK.due("balance(" + a + ") after the deposits", mint.balance(a), balances[a]);
         }
-        CHECK.due("count(1) after the deposits", mint.count(1), 3);
-        CHECK.due("count(3) after the deposits", mint.count(3), 0);
-        CHECK.due("traced() after the deposits", mint.traced(), -1);
-        CHECK.due("coins(0) after the deposits", mint.coins(0), 1);
+        CHECK.due("what a deposit changes", Check.changes(DepositTest::threePayments, x -> x.deposit(2, 3)),
+                Set.of("balance(3): 120", "count(1): 1"));
     }
 
-    private static void wrongInputs() {
-        for (int odd : new int[] {-1, 4, Integer.MIN_VALUE, Integer.MAX_VALUE}) {
+    /** "IllegalArgumentException, when there is no such account" */
+    private static void noSuchAccount() {
+        for (int odd : Check.NO_ACCOUNTS) {
             CHECK.refusedUnchanged("deposit(0, " + odd + ")", Check.ARGUMENT, DepositTest::threePayments,
                     mint -> mint.deposit(0, odd));
         }
+        for (int account = 0; account < 4; account++) {
+            CHECK.due("deposit(1, " + account + ")", threePayments().deposit(1, account), 5);
+        }
+    }
+
+    /** "no such account or payment": of three payments 0 .. 2 are there. */
+    private static void noSuchPayment() {
         for (int odd : new int[] {-1, 3, 19, 20, Integer.MIN_VALUE, Integer.MAX_VALUE}) {
             CHECK.refusedUnchanged("deposit(" + odd + ", 0)", Check.ARGUMENT, DepositTest::threePayments,
                     mint -> mint.deposit(odd, 0));
         }
+        for (int p = 0; p < 3; p++) {
+            CHECK.due("deposit(" + p + ", 0)", threePayments().deposit(p, 0), Forger.WORTH[p]);
+        }
+    }
+
+    /** The same words, for an object without payments. */
+    private static void noPaymentsAtAll() {
+        for (int p : new int[] {-1, 0, 1}) {
+            CHECK.refusedUnchanged("deposit(" + p + ", 0) of a new object", Check.ARGUMENT, BlindMint::new,
+                    mint -> mint.deposit(p, 0));
+        }
+    }
+
+    private static BlindMint twentyPayments() {
+        BlindMint mint = threePayments();
+        for (int p = 3; p < 20; p++) {
+            mint.spend(2, 0, 60, p);
+        }
+        return mint;
+    }
+
+    /** The same words, for the last of twenty payments and the one behind it. */
+    private static void twentiethPayment() {
+        CHECK.due("deposit(19, 0)", twentyPayments().deposit(19, 0), 20);
+        CHECK.refusedUnchanged("deposit(20, 0)", Check.ARGUMENT, DepositTest::twentyPayments,
+                mint -> mint.deposit(20, 0));
     }
 
     private static BlindMint tampered() {
@@ -56,6 +98,7 @@ public final class DepositTest {
         return mint;
     }
 
+    /** "or it is not good", and when it is good again it can be deposited. */
     private static void notGood() {
         CHECK.refusedUnchanged("deposit of a payment that is not good", Check.ARGUMENT, DepositTest::tampered,
                 mint -> mint.deposit(1, 0));
@@ -64,15 +107,22 @@ public final class DepositTest {
         CHECK.due("deposit of a payment that is good again", mint.deposit(1, 0), 5);
     }
 
-    private static void argumentsBeforeState() {
+    private static BlindMint depositedThenTampered() {
         BlindMint mint = threePayments();
         mint.deposit(0, 0);
-        CHECK.refused("deposit again to no account", Check.ARGUMENT, () -> mint.deposit(0, 4));
         mint.tamper(0, 6, 1);
-        CHECK.refused("deposit again when not good", Check.ARGUMENT, () -> mint.deposit(0, 1));
-        CHECK.due("count(3) after these", mint.count(3), 0);
+        return mint;
     }
 
+    /** "What it throws is tested in the order in which it stands there." */
+    private static void argumentsBeforeState() {
+        CHECK.refusedUnchanged("deposit again to no account", Check.ARGUMENT, DepositTest::repeated,
+                mint -> mint.deposit(0, 4));
+        CHECK.refusedUnchanged("deposit again when not good", Check.ARGUMENT, DepositTest::depositedThenTampered,
+                mint -> mint.deposit(0, 1));
+    }
+
+    /** "IllegalStateException, when its coin was deposited before": by this payment or by another of the coin. */
     private static void depositedBefore() {
         BlindMint mint = threePayments();
         mint.spend(2, 0, 56, 0);
@@ -90,7 +140,60 @@ public final class DepositTest {
         CHECK.refused("deposit again after tampering to and fro", Check.STATE, () -> mint.deposit(3, 1));
     }
 
-    /** A coin is told by its pair hashes: two coins may bear the same number and the same signature. */
+    /** Account 2's coin was paid with twice, told with the bits 0 and 8; the first was deposited, then the other. */
+    private static BlindMint repeated() {
+        BlindMint mint = new BlindMint();
+        mint.withdraw(2, 1, 8, 0);
+        mint.withdraw(2, 0, 9, 0);
+        long signature = mint.signature(2, 0);
+        mint.spend(2, 0, 1, Forger.nonceFor(1, signature, 0));
+        mint.spend(2, 0, 1, Forger.nonceFor(1, signature, 8));
+        mint.deposit(0, 0);
+        Check.outcome(() -> mint.deposit(1, 0));
+        return mint;
+    }
+
+    /** "in this case (only) the call changes what traced answers", and it is counted; nothing else changes. */
+    private static void repeatChangesThisAlone() {
+        CHECK.due("traced() before", repeated().traced(), 2);
+        for (int account = 0; account < 4; account++) {
+            int to = account;
+            CHECK.refusedChanging("deposit again with the same bits", Check.STATE, DepositTest::repeated,
+                    mint -> mint.deposit(0, to), "count(3): 2", "traced(): -1");
+            CHECK.refusedChanging("deposit again with other bits", Check.STATE, DepositTest::repeated,
+                    mint -> mint.deposit(1, to), "count(3): 2");
+        }
+    }
+
+    /** The same sentence: it is the coin that counts, and not to which account it is deposited. */
+    private static void firstDepositToAnyAccount() {
+        for (int first = 0; first < 4; first++) {
+            for (int second = 0; second < 4; second++) {
+                BlindMint mint = threePayments();
+                int to = second;
+                CHECK.due("deposit(1, " + first + ")", mint.deposit(1, first), 5);
+                CHECK.refused("deposit(1, " + second + ") again", Check.STATE, () -> mint.deposit(1, to));
+            }
+        }
+    }
+
+    /** "The coin of a good payment": two that are alike in a wallet are one; another account's is another. */
+    private static void twoCoinsOfOneSeed() {
+        BlindMint mint = new BlindMint();
+        for (int account : new int[] {1, 1, 2}) {
+            mint.withdraw(account, 1, 33, 0);
+        }
+        long signature = mint.signature(1, 0);
+        mint.spend(1, 0, 1, Forger.nonceFor(1, signature, 4));
+        mint.spend(1, 1, 1, Forger.nonceFor(1, signature, 6));
+        mint.spend(2, 0, 1, 1);
+        CHECK.due("deposit of the one", mint.deposit(0, 0), 5);
+        CHECK.refused("deposit of the one like it", Check.STATE, () -> mint.deposit(1, 0));
+        CHECK.due("traced() then", mint.traced(), 1);
+        CHECK.due("deposit of another account's", mint.deposit(2, 0), 5);
+    }
+
+    /** "that with the same denomination and P_0 .. P_3": two coins may bear the same number and signature. */
     private static void otherCoinsOfTheSameNumber() {
         BlindMint mint = threePayments();
         long[] first = {10, 20, 30, 1L << 57};
@@ -117,6 +220,7 @@ public final class DepositTest {
         throw new AssertionError("no pair hashes found");
     }
 
+    /** The same words: what differs in the denomination alone, or in one P_j alone, is another coin. */
     private static void sameHashesOfOtherDenominations() {
         BlindMint mint = threePayments();
         long[] hashes = {1, 2, 3, 4};

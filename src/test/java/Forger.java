@@ -16,6 +16,9 @@ final class Forger {
     private static final BigInteger ADDEND = new BigInteger("1442695040888963407");
     private static final BigInteger EXPONENT = BigInteger.valueOf(17);
 
+    /** How many bits of HASH are kept: the document's 59, but for the runs with a narrow HASH. */
+    static int hashBits = 59;
+
     private Forger() {
     }
 
@@ -25,7 +28,7 @@ final class Forger {
             h = h.xor(unsigned(v)).multiply(FACTOR).add(ADDEND).mod(TWO_64);
             h = h.xor(h.shiftRight(29));
         }
-        return h.mod(BigInteger.ONE.shiftLeft(59)).longValueExact();
+        return h.mod(BigInteger.ONE.shiftLeft(hashBits)).longValueExact();
     }
 
     /** One w of those for which HASH(.., w) is the wanted hash; high (0 .. 31) says which. */
@@ -33,9 +36,14 @@ final class Forger {
         return stateAfter(first) ^ before(wanted | high << 59);
     }
 
-    /** The seed whose draw k is the wanted one. */
-    static long seedWithDraw(int k, long wanted) {
-        return 7 ^ before(before(wanted) ^ k);
+    /** One seed of those whose draw k is the wanted one; high (0 .. 31) says which. */
+    static long seedWithDraw(int k, long wanted, long high) {
+        return 7 ^ before(before(wanted | high << 59) ^ k);
+    }
+
+    /** The seed for which h, in HASH's first step, is this sum before it is moved down. */
+    static long seedWithSum(long sum) {
+        return 7 ^ before(sum ^ sum >>> 29);
     }
 
     static BigInteger modulus(int denomination) {
@@ -86,10 +94,15 @@ final class Forger {
 
     /** The two candidates that the mint opens, as bits. */
     static int opened(List<long[]> candidates) {
+        int[] pair = openedPair(candidates);
+        return 1 << pair[0] | 1 << pair[1];
+    }
+
+    static int[] openedPair(List<long[]> candidates) {
         long t = hash(pairHashes(candidates));
         long first = t % 6;
         long second = (first + 1 + t / 6 % 5) % 6;
-        return 1 << first | 1 << second;
+        return new int[] {(int) first, (int) second};
     }
 
     static List<long[]> parts(List<long[]> candidates) {
@@ -150,6 +163,23 @@ final class Forger {
     /** Another w for another v, so that HASH(v, w) of a part stays as it was. */
     static long otherSecond(long v, long w, long otherV) {
         return last(hash(v, w), 0, otherV);
+    }
+
+    /** A, C, Y, B, E and X of each part of a coin, learnt by paying with it twice. */
+    static List<long[]> learnParts(BlindMint mint, int account, int coin) {
+        long signature = mint.signature(account, coin);
+        int ones = mint.spend(account, coin, 1, nonceFor(1, signature, 15));
+        int zeros = mint.spend(account, coin, 1, nonceFor(1, signature, 0));
+        List<long[]> parts = new ArrayList<>();
+        for (int j = 0; j < 4; j++) {
+            long[] part = new long[6];
+            for (int i = 0; i < 3; i++) {
+                part[i] = mint.number(ones, 4 + 3 * j + i);
+                part[3 + i] = mint.number(zeros, 4 + 3 * j + i);
+            }
+            parts.add(part);
+        }
+        return parts;
     }
 
     /** Tampers with a payment until it has these numbers. */

@@ -5,14 +5,23 @@ public final class GoodTest {
     private static final long[] VS = {1, 22, -333, Long.MIN_VALUE};
 
     public static void main(String[] args) {
-        realPayments();
-        noPayment();
-        flippedBits();
-        otherMerchantsAndNonces();
-        denominations();
-        signatures();
-        orderOfParts();
-        otherNumbersOfTheSameHash();
+        CHECK.each(
+                GoodTest::realPayments,
+                GoodTest::noPayment,
+                GoodTest::noPaymentsAtAll,
+                GoodTest::lastPayment,
+                GoodTest::flippedBits,
+                GoodTest::otherMerchantsAndNonces,
+                GoodTest::denominations,
+                GoodTest::signatureBelowZero,
+                GoodTest::signatureBelowTheModulus,
+                GoodTest::otherSignatures,
+                GoodTest::signatureOfZeroAndOfFactors,
+                GoodTest::noneLessThanTheOneBefore,
+                GoodTest::leastAndGreatestPairHashes,
+                GoodTest::toldForTheOtherBit,
+                GoodTest::numbersOfAllSizes,
+                GoodTest::otherNumbersOfTheSameHash);
         CHECK.finish();
     }
 
@@ -30,6 +39,7 @@ public final class GoodTest {
         CHECK.due("good again with " + what, mint.good(0), due);
     }
 
+    /** "Whether payment p is good"; that of a coin in a wallet is, before its deposit and after it. */
     private static void realPayments() {
         for (int d = 0; d < 3; d++) {
             BlindMint mint = new BlindMint();
@@ -41,8 +51,10 @@ public final class GoodTest {
             mint.deposit(0, 0);
             CHECK.due("good of a payment that was deposited", mint.good(0), true);
         }
+        CHECK.due("what good changes", Check.changes(() -> onePayment(1), x -> x.good(0)).size(), 0);
     }
 
+    /** "false also when there is none" */
     private static void noPayment() {
         BlindMint mint = onePayment(1);
         for (int odd : new int[] {-1, 1, 19, 20, Integer.MIN_VALUE, Integer.MAX_VALUE}) {
@@ -50,7 +62,24 @@ public final class GoodTest {
         }
     }
 
-    /** No single bit of the denomination, the signature or a part can be changed. */
+    /** The same words, for an object without payments. */
+    private static void noPaymentsAtAll() {
+        for (int p : new int[] {-1, 0, 1, 19, 20}) {
+            CHECK.due("good(" + p + ") of a new object", new BlindMint().good(p), false);
+        }
+    }
+
+    /** The same words, for the last payment and the one behind it, up to the twentieth. */
+    private static void lastPayment() {
+        BlindMint mint = onePayment(0);
+        for (int n = 1; n <= 20; n++) {
+            CHECK.due("good of the last of " + n, mint.good(n - 1), true);
+            CHECK.due("good of the payment behind " + n, mint.good(n), false);
+            Check.outcome(() -> mint.spend(0, 0, 8, 9));
+        }
+    }
+
+    /** "A payment is GOOD when": no single bit of the denomination, the signature or a part can be changed. */
     private static void flippedBits() {
         for (int i = 0; i < 16; i++) {
             if (i == 2 || i == 3) {
@@ -66,7 +95,7 @@ public final class GoodTest {
         }
     }
 
-    /** They count by the four lowest bits of c alone, and may be any numbers of 64 bits. */
+    /** "with c as above": merchant and nonce count by its four lowest bits alone, and may have 64 bits. */
     private static void otherMerchantsAndNonces() {
         int good = 0;
         for (int i = 2; i < 4; i++) {
@@ -84,11 +113,12 @@ public final class GoodTest {
         CHECK.due("some of them were good", good > 0, true);
     }
 
+    /** "its denomination is 0, 1 or 2": all 64 bits of it count. */
     private static void denominations() {
         for (int d = 0; d < 3; d++) {
             isGood("denomination " + d, Forger.payment(d, HASHES, 1, 2, VS), true);
         }
-        for (long odd : new long[] {3, 4, -1, 1L << 32, 1L << 32 | 1, Long.MIN_VALUE, Long.MAX_VALUE}) {
+        for (long odd : new long[] {-1, 3, 4, 1L << 32, 1L << 32 | 1, Long.MIN_VALUE, Long.MAX_VALUE}) {
             for (int d = 0; d < 3; d++) {
                 long signature = Forger.sign(Forger.coinNumber(odd, HASHES), d);
                 isGood("denomination " + odd, Forger.payment(odd, signature, HASHES, 1, 2, VS), false);
@@ -98,15 +128,61 @@ public final class GoodTest {
         isGood("another denomination's signature", Forger.payment(1, signature, HASHES, 1, 2, VS), false);
     }
 
-    private static void signatures() {
+    /** "its signature is not below 0": 0 itself is good, and what is just below 0 is not, though its power is right. */
+    private static void signatureBelowZero() {
+        for (int d = 0; d < 3; d++) {
+            long[] zero = hashesFor(d, 0);
+            isGood("signature 0", Forger.payment(d, 0, zero, 1, 2, VS), true);
+            long modulus = Forger.modulus(d).longValueExact();
+            isGood("minus the modulus for 0", Forger.payment(d, -modulus, zero, 1, 2, VS), false);
+            long greatest = greatestSignature(d);
+            long[] hashes = hashesFor(d, Forger.raise(greatest, d));
+            isGood("what is just below 0", Forger.payment(d, greatest - modulus, hashes, 1, 2, VS), false);
+        }
+    }
+
+    /** "and is below the modulus": just below it is good, the modulus for 0 and one more for 1 are not. */
+    private static void signatureBelowTheModulus() {
+        for (int d = 0; d < 3; d++) {
+            long modulus = Forger.modulus(d).longValueExact();
+            long greatest = greatestSignature(d);
+            CHECK.due("the greatest signature is just below the modulus", modulus - greatest < 30, true);
+            long[] hashes = hashesFor(d, Forger.raise(greatest, d));
+            isGood("the greatest signature", Forger.payment(d, greatest, hashes, 1, 2, VS), true);
+            isGood("the modulus for 0", Forger.payment(d, modulus, hashesFor(d, 0), 1, 2, VS), false);
+            isGood("the modulus and 1 for 1", Forger.payment(d, modulus + 1, hashesFor(d, 1), 1, 2, VS), false);
+            for (long more = greatest + modulus; more > 0; more += modulus) {
+                isGood("a signature far above the modulus", Forger.payment(d, more, hashes, 1, 2, VS), false);
+            }
+        }
+    }
+
+    /** The greatest number below the modulus whose power can be a hash. */
+    private static long greatestSignature(int denomination) {
+        long s = Forger.modulus(denomination).longValueExact() - 1;
+        while (Forger.raise(s, denomination) >= 1L << 59) {
+            s--;
+        }
+        return s;
+    }
+
+    /** "and the signature is that of HASH(denomination, P_0, .., P_3)": no number beside it is. */
+    private static void otherSignatures() {
         for (int d = 0; d < 3; d++) {
             long modulus = Forger.modulus(d).longValueExact();
             long signature = Forger.sign(Forger.coinNumber(d, HASHES), d);
             isGood("the signature", Forger.payment(d, signature, HASHES, 1, 2, VS), true);
             for (long odd : new long[] {signature + modulus, signature - modulus, modulus - signature, -signature,
-                signature + 1, signature - 1, modulus, -1, Long.MIN_VALUE, Long.MAX_VALUE}) {
+                signature + 1, signature - 1, signature + Forger.P[d], signature - Forger.Q[d], 0, 1, modulus, -1,
+                Long.MIN_VALUE, Long.MAX_VALUE}) {
                 isGood("signature " + odd, Forger.payment(d, odd, HASHES, 1, 2, VS), false);
             }
+        }
+    }
+
+    /** "(there is just one)": also of 0, of 1, and of what has a factor in common with the modulus. */
+    private static void signatureOfZeroAndOfFactors() {
+        for (int d = 0; d < 3; d++) {
             for (long multiple : new long[] {0, 1, smallPowerMultiple(Forger.P[d], d),
                 smallPowerMultiple(Forger.Q[d], d)}) {
                 long[] hashes = hashesFor(d, Forger.raise(multiple, d));
@@ -114,9 +190,6 @@ public final class GoodTest {
                 isGood("signature " + multiple + " of another coin",
                         Forger.payment(d, multiple, HASHES, 1, 2, VS), false);
             }
-            long[] zero = hashesFor(d, 0);
-            isGood("the modulus for 0", Forger.payment(d, modulus, zero, 1, 2, VS), false);
-            isGood("minus the modulus for 0", Forger.payment(d, -modulus, zero, 1, 2, VS), false);
         }
     }
 
@@ -141,17 +214,66 @@ public final class GoodTest {
         throw new AssertionError("no pair hashes found");
     }
 
-    private static void orderOfParts() {
-        isGood("pair hashes that are 0", Forger.payment(0, new long[4], 1, 2, VS), true);
+    /** "no P_j is less than the one before": as much is good, one less is not, in each of the three places. */
+    private static void noneLessThanTheOneBefore() {
+        for (int j = 1; j < 4; j++) {
+            for (int step : new int[] {1, 0, -1}) {
+                long[] hashes = {1000, 2000, 3000, 4000};
+                hashes[j] = hashes[j - 1] + step;
+                for (int k = j + 1; k < 4; k++) {
+                    hashes[k] = hashes[k - 1] + 1000;
+                }
+                isGood("P_" + j + " being " + step + " more than the one before",
+                        Forger.payment(0, hashes, 1, 2, VS), step >= 0);
+            }
+        }
         isGood("equal pair hashes", Forger.payment(1, new long[] {5, 5, 5, 5}, 1, 2, VS), true);
-        long most = (1L << 59) - 1;
-        isGood("the greatest pair hashes", Forger.payment(2, new long[] {0, most, most, most}, 1, 2, VS), true);
-        isGood("the first two not in order", Forger.payment(0, new long[] {6, 5, 7, 8}, 1, 2, VS), false);
-        isGood("the middle two not in order", Forger.payment(0, new long[] {5, 7, 6, 8}, 1, 2, VS), false);
-        isGood("the last two not in order", Forger.payment(0, new long[] {5, 6, 8, 7}, 1, 2, VS), false);
         isGood("the last less than the first", Forger.payment(0, new long[] {5, 6, 7, 4}, 1, 2, VS), false);
+        isGood("falling pair hashes", Forger.payment(2, new long[] {8, 7, 6, 5}, 1, 2, VS), false);
     }
 
+    /** The same words, for the least pair hash, 0, and the greatest, 2^59 - 1. */
+    private static void leastAndGreatestPairHashes() {
+        long most = (1L << 59) - 1;
+        isGood("pair hashes that are 0", Forger.payment(0, new long[4], 1, 2, VS), true);
+        isGood("the greatest pair hashes", Forger.payment(2, new long[] {most, most, most, most}, 1, 2, VS), true);
+        isGood("the least, then the greatest", Forger.payment(2, new long[] {0, 0, most, most}, 1, 2, VS), true);
+        isGood("the greatest, then the least", Forger.payment(2, new long[] {0, most, most, 0}, 1, 2, VS), false);
+        isGood("the greatest, then one less", Forger.payment(2, new long[] {0, 0, most, most - 1}, 1, 2, VS), false);
+    }
+
+    /** "as bit j of c is 1 or 0": a part that is told for the other bit is not good. */
+    private static void toldForTheOtherBit() {
+        BlindMint mint = new BlindMint();
+        mint.withdraw(0, 2, 6, 0);
+        Forger.learnParts(mint, 0, 0);
+        for (int j = 0; j < 4; j++) {
+            for (int p = 0; p < 2; p++) {
+                long[] masks = new long[3];
+                for (int i = 0; i < 3; i++) {
+                    masks[i] = mint.number(0, 4 + 3 * j + i) ^ mint.number(1, 4 + 3 * j + i);
+                    mint.tamper(p, 4 + 3 * j + i, masks[i]);
+                }
+                CHECK.due("good of payment " + p + " with part " + j + " of the other", mint.good(p), false);
+                for (int i = 0; i < 3; i++) {
+                    mint.tamper(p, 4 + 3 * j + i, masks[i]);
+                }
+                CHECK.due("good of payment " + p + " as it was", mint.good(p), true);
+            }
+        }
+    }
+
+    /** "for the three numbers v, w, z of part j": any numbers of 64 bits, if the hashes are right. */
+    private static void numbersOfAllSizes() {
+        for (long v : new long[] {0, -1, Long.MIN_VALUE, Long.MAX_VALUE, 1L << 59, (1L << 59) - 1}) {
+            for (int bits : new int[] {0, 15, 5, 10}) {
+                int nonce = Forger.nonceFor(3, Forger.sign(Forger.coinNumber(1, HASHES), 1), bits);
+                isGood("every v being " + v, Forger.payment(1, HASHES, 3, nonce, new long[] {v, v, v, v}), true);
+            }
+        }
+    }
+
+    /** The same: of the numbers that make the same hash, each will do. */
     private static void otherNumbersOfTheSameHash() {
         BlindMint mint = onePayment(1);
         for (int j = 0; j < 4; j++) {
