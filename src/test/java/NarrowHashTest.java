@@ -11,7 +11,7 @@ import javax.tools.ToolProvider;
 
 /**
  * Compiles the class once more with a HASH that keeps a few bits, and makes the runs of NarrowRuns with it.
- * With 59 bits nobody finds a seed that has two candidates of the same pair hash; with a few, most have.
+ * With 59 bits some 2^52 seeds would have to be tried for one that has two candidates of the same pair hash.
  */
 public final class NarrowHashTest {
     private static final Path SOURCE = Path.of("src/main/java/BlindMint.java");
